@@ -409,7 +409,7 @@ public final class SliceShares {
     }
 
     private static long triedNearest(long fraction, int greatest) {
-        long nearest = Fractions.pair(Fractions.roundedDown(fraction, 1), 1);
+        long nearest = Fractions.ZERO;
         // A later one has to be nearer, so that of several the least denominator stays.
         for (int denominator = 1; denominator <= greatest; denominator++) {
             long below = Fractions.roundedDown(fraction, denominator);
