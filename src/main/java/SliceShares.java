@@ -438,8 +438,8 @@ public final class SliceShares {
     private boolean execute() {
         int plate = reader.plate();
         if (reader.letter() == 's') {
-            return isPlate(plate)
-                    && putIfPossible(plate, Fractions.inLowestTerms(reader.first(), reader.second()));
+            long fraction = Fractions.inLowestTerms(reader.first(), reader.second());
+            return isPlate(plate) && putIfPossible(plate, fraction);
         }
         int other = reader.second();
         if (!isPlate(plate) || !isPlate(other)) {
