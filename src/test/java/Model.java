@@ -229,7 +229,8 @@ final class Model {
         long bestD = 1;
         for (long tryD = 1; tryD <= greatest; tryD++) {
             for (long tryN = Math.max(0, n * tryD / d - 2); tryN <= n * tryD / d + 2; tryN++) {
-                if (Math.abs(n * tryD - tryN * d) * bestD < Math.abs(n * bestD - bestN * d) * tryD) {
+                long distance = Math.abs(n * tryD - tryN * d);
+                if (distance * bestD < Math.abs(n * bestD - bestN * d) * tryD) {
                     bestN = tryN;
                     bestD = tryD;
                 }

@@ -2,8 +2,9 @@ import java.util.Random;
 
 /** Runs of calls, chosen by a fixed seed, answer as the model does. */
 public final class ModelTest {
-    private static final int RUNS = 300;
-    private static final int CALLS = 512;
+    private static final int RUNS = 1000;
+    private static final int MOST_CALLS = 512;
+    private static final int CALLS_AT_THE_END = 12;
     private static final int KINDS_OF_CALLS = 41;
 
     private static final int[] PLATES = {0, 1, 2, 3, 4, 5, 0, 1, 2, 3, 4, 5, 0, 1, 2, -1, 6};
@@ -18,7 +19,9 @@ public final class ModelTest {
     private final Random random = new Random(20261119);
     private SliceShares shares;
     private Model model;
-    private String run;
+    private int run;
+    private int calls;
+    private int allowedCalls;
 
     public static void main(String[] args) {
         ModelTest test = new ModelTest();
@@ -31,29 +34,36 @@ public final class ModelTest {
     private void oneRun(int number) {
         shares = new SliceShares();
         model = new Model();
-        for (int call = 1; call <= CALLS; call++) {
-            run = "run " + number + ", call " + call + ": ";
+        run = number;
+        calls = 0;
+        allowedCalls = MOST_CALLS - CALLS_AT_THE_END;
+        while (calls < allowedCalls) {
             if (random.nextInt(3) == 0) {
                 askSomeChange();
             } else {
                 askOne(random.nextInt(KINDS_OF_CALLS));
             }
         }
+        allowedCalls = MOST_CALLS;
         for (int plate = 0; plate < 6; plate++) {
             askPlate(plate);
         }
     }
 
     private void askPlate(int plate) {
-        run = "at the end of " + run;
         compared("numeratorOf(" + plate + ")",
                 () -> shares.numeratorOf(plate), () -> model.numeratorOf(plate));
         compared("denominatorOf(" + plate + ")",
                 () -> shares.denominatorOf(plate), () -> model.denominatorOf(plate));
     }
 
+    /** Asks neither of them beyond the calls that an object is used for. */
     private void compared(String call, Checks.Call got, Checks.Call want) {
-        checks.due(run + call, Checks.outcome(want), Checks.outcome(got));
+        if (calls < allowedCalls) {
+            calls++;
+            checks.due("run " + run + ", call " + calls + ": " + call, Checks.outcome(want),
+                    Checks.outcome(got));
+        }
     }
 
     private int pick(int[] numbers) {
