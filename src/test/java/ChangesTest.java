@@ -1,12 +1,7 @@
 /** Promises 1 to 9: a new object and the changes of its plates. */
 public final class ChangesTest extends Sentences {
-    private static final String PLATES = "Plates are 0 to 5";
-    private static final String NO_PLATE =
-            "Throws `IndexOutOfBoundsException` if there is no such plate";
     private static final String NO_FRACTION_BEYOND =
             "No numerator or denominator of a plate may be greater than 1000000";
-    private static final String THE_FIRST =
-            "if several exceptions apply, the first one of the throws clause is thrown";
     private static final String LOWEST_TERMS =
             "told by its numerator and its denominator, which is at least 1, in lowest terms";
     private static final String OTHER_KEEPS_IT = "the other one keeps it";

@@ -2,12 +2,8 @@ import java.util.function.BiFunction;
 
 /** Promises 16 to 22: continued fractions and nearest fractions. */
 public final class ContinuedFractionsTest extends Sentences {
-    private static final String NO_PLATE =
-            "Throws `IndexOutOfBoundsException` if there is no such plate";
     private static final String NO_TERM =
             "Throws `IndexOutOfBoundsException` if there is no such plate or term";
-    private static final String THE_FIRST =
-            "if several exceptions apply, the first one of the throws clause is thrown";
     private static final String GREATEST = "`greatest`: 1 to 1000";
     private static final int[] NO_GREATEST = {0, 1001, -1, Integer.MIN_VALUE, Integer.MAX_VALUE};
 

@@ -272,17 +272,9 @@ public final class ModelTest {
         int at = 0;
         while (at < text.length()) {
             int end = Math.min(text.length(), at + 1 + random.nextInt(8));
-            append(packed(text.substring(at, end)));
+            append(Sentences.packed(text.substring(at, end)));
             at = end;
         }
-    }
-
-    static long packed(String text) {
-        long packed = 0;
-        for (int i = 0; i < text.length(); i++) {
-            packed = packed << 8 | text.charAt(i);
-        }
-        return packed;
     }
 
     private long wrongCharacters() {
@@ -290,13 +282,13 @@ public final class ModelTest {
             case 0:
                 return random.nextLong();
             case 1:
-                return packed("s0") << 8;
+                return Sentences.packed("s0") << 8;
             case 2:
                 return (long) random.nextInt(256) << 8 * random.nextInt(8);
             case 3:
-                return packed("c0,1" + (char) (30 + random.nextInt(100)));
+                return Sentences.packed("c0,1" + (char) (30 + random.nextInt(100)));
             default:
-                return packed("s") << 16 | packed("+");
+                return Sentences.packed("s") << 16 | Sentences.packed("+");
         }
     }
 

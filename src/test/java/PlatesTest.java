@@ -1,7 +1,5 @@
 /** Promises 10 to 15: what is told of the plates. */
 public final class PlatesTest extends Sentences {
-    private static final String NO_PLATE =
-            "Throws `IndexOutOfBoundsException` if there is no such plate";
     private static final String GREATEST_FIRST =
             "by its place in the order of what the plates hold, the greatest first";
     private static final String LEAST_PARTS = "Returns the least number of equal parts into which"

@@ -18,6 +18,11 @@ abstract class Sentences {
     static final Class<IllegalArgumentException> ARGUMENT = IllegalArgumentException.class;
     static final Class<IllegalStateException> STATE = IllegalStateException.class;
 
+    static final String NO_PLATE =
+            "Throws `IndexOutOfBoundsException` if there is no such plate";
+    static final String THE_FIRST =
+            "if several exceptions apply, the first one of the throws clause is thrown";
+
     private static final int[] NO_PLATES = {-1, 6, Integer.MIN_VALUE, Integer.MAX_VALUE};
     private static final int MOST_UNDONE = 8;
 

@@ -4,8 +4,6 @@ import java.util.function.Consumer;
 public final class TextTest extends Sentences {
     private static final String LENGTH_AFTERWARDS = "Returns the length of the text afterwards.";
     private static final String CODES = "the codes of the characters, each 33 to 126";
-    private static final String THE_FIRST =
-            "if several exceptions apply, the first one of the throws clause is thrown";
     private static final String FIRST_ERROR =
             "of the first character that cannot follow the characters before it";
     private static final String INCOMPLETE =

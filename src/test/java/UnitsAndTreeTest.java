@@ -1,12 +1,8 @@
 /** Promises 23 to 27: unit fractions and the tree. */
 public final class UnitsAndTreeTest extends Sentences {
-    private static final String NO_PLATE =
-            "Throws `IndexOutOfBoundsException` if there is no such plate";
     private static final String ONE_OR_MORE =
             "Throws `IllegalStateException` if the plate holds 1 or more";
     private static final String ZERO = "Throws `IllegalStateException` if the plate is 0";
-    private static final String THE_FIRST =
-            "if several exceptions apply, the first one of the throws clause is thrown";
     private static final String TURNS =
             "Returns how often the way to a plate in the tree changes between left and right.";
     private static final String AT_THE_MIDDLE = "at the middle itself the way ends";
