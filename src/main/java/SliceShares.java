@@ -188,7 +188,7 @@ public final class SliceShares {
             throws IndexOutOfBoundsException, IllegalArgumentException {
         requirePlate(plate);
         requireLimit(greatest);
-        return (int) Fractions.denominator(triedNearest(plates[plate], greatest));
+        return triedDenominator(plates[plate], greatest);
     }
 
     public int nearestNumerator(int plate, int greatest)
@@ -408,13 +408,15 @@ public final class SliceShares {
         return continued.nearest(greatest);
     }
 
-    private static long triedNearest(long fraction, int greatest) {
-        long nearest = Fractions.ZERO;
-        // A later one has to be nearer, so that of several the least denominator stays.
-        for (int denominator = 1; denominator <= greatest; denominator++) {
-            long below = Fractions.roundedDown(fraction, denominator);
-            nearest = Fractions.nearer(fraction, nearest, Fractions.pair(below, denominator));
-            nearest = Fractions.nearer(fraction, nearest, Fractions.pair(below + 1, denominator));
+    /** Shares nothing with the way by the continued fraction, so that each can check the other. */
+    private static int triedDenominator(long fraction, int greatest) {
+        int nearest = 1;
+        // A later one has to be nearer, so that of several the least stays.
+        for (int tried = 2; tried <= greatest; tried++) {
+            if (Fractions.partsApart(fraction, tried) * nearest
+                    < Fractions.partsApart(fraction, nearest) * tried) {
+                nearest = tried;
+            }
         }
         return nearest;
     }
@@ -550,9 +552,13 @@ public final class SliceShares {
             return left < right ? -1 : 1;
         }
 
-        /** The greatest numerator that a denominator may have in a fraction at most as great. */
-        static long roundedDown(long fraction, int denominator) {
-            return numerator(fraction) * denominator / denominator(fraction);
+        /**
+         * How far the nearest fraction with another denominator lies away, multiplied by both
+         * denominators.
+         */
+        static long partsApart(long fraction, int denominator) {
+            long partsAbove = numerator(fraction) * denominator % denominator(fraction);
+            return Math.min(partsAbove, denominator(fraction) - partsAbove);
         }
 
         /** The other one if it lies nearer to the fraction, and otherwise the first one. */

@@ -122,6 +122,11 @@ public final class ChangesTest extends Sentences {
         holds(5, 1, 3);
     }
 
+    void setOfEachPlate() {
+        says(2, "Puts a fraction onto a plate, in place of what is there");
+        changesEachPlate(2, 5, (x, plate) -> x.set(plate, 4, 10));
+    }
+
     void setThrowsTheFirst() {
         says(2, THE_FIRST);
         refused(INDEX, x -> x.set(6, -1, 1));
@@ -137,6 +142,12 @@ public final class ChangesTest extends Sentences {
         due(2, x -> x.add(0, 1));
         holds(0, 1, 2);
         holds(1, 1, 3);
+    }
+
+    void addOfEachTwoPlates() {
+        says(3, "Adds what is on another plate to a plate; the other one keeps it.");
+        changesEachTwo(new int[] {11, 12}, new int[] {1, 6},
+                (x, plate, other) -> x.add(plate, other));
     }
 
     void addOfAPlateToItself() {
@@ -228,6 +239,12 @@ public final class ChangesTest extends Sentences {
         due(3, x -> x.takeAway(0, 1));
         holds(0, 1, 3);
         holds(1, 1, 6);
+    }
+
+    void takeAwayOfEachTwoPlates() {
+        says(4, "Takes what is on another plate from a plate; the other one keeps it.");
+        changesEachTwo(new int[] {7, 12}, new int[] {1, 6},
+                (x, plate, other) -> x.takeAway(plate, other));
     }
 
     void takeAwayOfAsMuchLeavesZero() {
@@ -322,6 +339,12 @@ public final class ChangesTest extends Sentences {
         holds(1, 3, 8);
     }
 
+    void multiplyOfEachTwoPlates() {
+        says(5, "Multiplies a plate by another one.");
+        changesEachTwo(new int[] {1, 8}, new int[] {1, 6},
+                (x, plate, other) -> x.multiply(plate, other));
+    }
+
     void multiplyByItself() {
         says(5, "Multiplies a plate by another one.");
         x.set(0, 3, 8);
@@ -403,6 +426,12 @@ public final class ChangesTest extends Sentences {
         holds(1, 3, 4);
     }
 
+    void copyToOfEachTwoPlates() {
+        says(6, "Copies what is on a plate to another one.");
+        changesEachTwo(new int[] {3, 4}, new int[] {3, 4},
+                (x, plate, other) -> x.copyTo(plate, other));
+    }
+
     void copyToTellsWhetherTheOtherHeldTheSame() {
         says(6, "Returns whether the other one held the same before.");
         put(x, 3, 4, 3, 5);
@@ -456,6 +485,11 @@ public final class ChangesTest extends Sentences {
         holds(0, 1, 1);
     }
 
+    void invertOfEachPlate() {
+        says(7, "Puts the reciprocal onto a plate.");
+        changesEachPlate(4, 3, (x, plate) -> x.invert(plate));
+    }
+
     void invertOfTheGreatestAndTheLeast() {
         says(7, "Puts the reciprocal onto a plate.");
         x.set(0, 1000000, 1);
@@ -473,6 +507,7 @@ public final class ChangesTest extends Sentences {
         refused(STATE, x -> x.set(5, 0, 1), x -> x.invert(5));
         refused(STATE, x -> x.set(5, 0, 1000000), x -> x.invert(5));
         refused(STATE, x -> x.takeAway(5, 5), x -> x.invert(5));
+        refusedOnEachPlate(STATE, 0, 1, (x, plate) -> x.invert(plate));
     }
 
     void invertKnowsPlates0To5() {
@@ -489,6 +524,11 @@ public final class ChangesTest extends Sentences {
         holds(0, 3, 8);
         due(8, x -> x.share(0, 3));
         holds(0, 1, 8);
+    }
+
+    void shareOfEachPlate() {
+        says(8, "Shares what is on a plate among guests");
+        changesEachPlate(3, 8, (x, plate) -> x.share(plate, 2));
     }
 
     void shareAmong1To100() {
@@ -557,6 +597,11 @@ public final class ChangesTest extends Sentences {
         holds(0, 333, 106);
         due(7, x -> x.roundTo(0, 7));
         holds(0, 22, 7);
+    }
+
+    void roundToOfEachPlate() {
+        says(9, "Makes a plate the nearest fraction for a greatest denominator");
+        changesEachPlate(2, 3, (x, plate) -> x.roundTo(plate, 3));
     }
 
     void roundToTakesTheFirstOfSeveral() {

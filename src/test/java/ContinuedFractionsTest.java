@@ -56,6 +56,11 @@ public final class ContinuedFractionsTest extends Sentences {
         due(28, x -> x.termCount(0));
     }
 
+    void termCountOfEachPlate() {
+        says(16, "Returns how many terms the continued fraction of a plate has.");
+        answersOnEachPlate(355, 113, 3, (x, plate) -> x.termCount(plate));
+    }
+
     void termCountKnowsPlates0To5() {
         says(16, NO_PLATE);
         platesAre0To5((x, plate) -> x.termCount(plate));
@@ -68,6 +73,13 @@ public final class ContinuedFractionsTest extends Sentences {
         due(1, x -> x.termAt(0, 1));
         due(1, x -> x.termAt(0, 27));
         due(2, x -> x.termAt(0, 28));
+    }
+
+    void termAtOfEachPlate() {
+        says(17, "Returns a term of the continued fraction of a plate.");
+        answersOnEachPlate(355, 113, 3, (x, plate) -> x.termAt(plate, 0));
+        answersOnEachPlate(355, 113, 16, (x, plate) -> x.termAt(plate, 2));
+        refusedOnEachPlate(INDEX, 355, 113, (x, plate) -> x.termAt(plate, 3));
     }
 
     /** Of the terms of a plate, of which there are so many, none is told beyond the last one. */
@@ -135,6 +147,17 @@ public final class ContinuedFractionsTest extends Sentences {
         x.set(0, 514229, 832040);
         beginning(27, 196418, 317811);
         beginning(28, 514229, 832040);
+    }
+
+    void beginningOfEachPlate() {
+        says(18, "of what the beginning of a continued fraction up to a term");
+        answersOnEachPlate(355, 113, 3, (x, plate) -> x.beginningNumerator(plate, 0));
+        answersOnEachPlate(355, 113, 22, (x, plate) -> x.beginningNumerator(plate, 1));
+        refusedOnEachPlate(INDEX, 355, 113, (x, plate) -> x.beginningNumerator(plate, 3));
+        says(19, "of what the beginning of a continued fraction up to a term");
+        answersOnEachPlate(355, 113, 7, (x, plate) -> x.beginningDenominator(plate, 1));
+        answersOnEachPlate(355, 113, 113, (x, plate) -> x.beginningDenominator(plate, 2));
+        refusedOnEachPlate(INDEX, 355, 113, (x, plate) -> x.beginningDenominator(plate, 3));
     }
 
     void beginningNumeratorBeyondTheLastTerm() {
@@ -270,6 +293,15 @@ public final class ContinuedFractionsTest extends Sentences {
         nearest(1, 1, 1);
         nearest(987, 610, 987);
         nearest(986, 377, 610);
+    }
+
+    void nearestOfEachPlate() {
+        says(20, "Returns the denominator of the nearest fraction to a plate");
+        answersOnEachPlate(355, 113, 7, (x, plate) -> x.nearestDenominator(plate, 8));
+        says(21, "Returns the same denominator, found by trying all denominators.");
+        answersOnEachPlate(355, 113, 7, (x, plate) -> x.nearestByTrying(plate, 8));
+        says(22, "Returns the numerator of the nearest fraction to a plate.");
+        answersOnEachPlate(355, 113, 22, (x, plate) -> x.nearestNumerator(plate, 8));
     }
 
     void nearestDenominatorGreatest1To1000() {

@@ -118,6 +118,70 @@ abstract class Sentences {
         }
     }
 
+    /** Of this fraction the call answers so on each plate, whatever the other ones hold. */
+    final void answersOnEachPlate(int numerator, int denominator, Object want,
+            BiFunction<SliceShares, Integer, Object> call) {
+        for (int plate = 0; plate < 6; plate++) {
+            int asked = plate;
+            x = withAll(1, 1);
+            x.set(asked, numerator, denominator);
+            due(want, x -> call.apply(x, asked));
+        }
+    }
+
+    /** Of this fraction the call is refused on each plate, whatever the other ones hold. */
+    final void refusedOnEachPlate(Class<? extends RuntimeException> type, int numerator,
+            int denominator, BiFunction<SliceShares, Integer, Object> call) {
+        for (int plate = 0; plate < 6; plate++) {
+            int asked = plate;
+            refused(type, x -> x.set(asked, numerator, denominator), x -> call.apply(x, asked));
+        }
+    }
+
+    /** Each plate that holds 3 / 4 comes to hold this, and all others keep what they hold. */
+    final void changesEachPlate(int numerator, int denominator,
+            BiFunction<SliceShares, Integer, Object> call) {
+        for (int plate = 0; plate < 6; plate++) {
+            x = withAll(1, 7);
+            x.set(plate, 3, 4);
+            call.apply(x, plate);
+            for (int seen = 0; seen < 6; seen++) {
+                holds(seen, seen == plate ? numerator : 1, seen == plate ? denominator : 7);
+            }
+        }
+    }
+
+    interface CallOfTwo {
+        Object on(SliceShares shares, int plate, int other);
+    }
+
+    /** Of each two plates with 3 / 4 and 1 / 6 this comes, and all others keep what they hold. */
+    final void changesEachTwo(int[] plateHolds, int[] otherHolds, CallOfTwo call) {
+        int[] restHolds = {1, 7};
+        for (int pair = 0; pair < 36; pair++) {
+            int plate = pair / 6;
+            int other = pair % 6;
+            if (plate != other) {
+                x = withAll(1, 7);
+                x.set(plate, 3, 4);
+                x.set(other, 1, 6);
+                call.on(x, plate, other);
+                for (int seen = 0; seen < 6; seen++) {
+                    int[] due = seen == plate ? plateHolds : seen == other ? otherHolds : restHolds;
+                    holds(seen, due[0], due[1]);
+                }
+            }
+        }
+    }
+
+    private static SliceShares withAll(int numerator, int denominator) {
+        SliceShares shares = new SliceShares();
+        for (int plate = 0; plate < 6; plate++) {
+            shares.set(plate, numerator, denominator);
+        }
+        return shares;
+    }
+
     final void type(String text) {
         append(x, text);
     }

@@ -390,6 +390,25 @@ public final class TextTest extends Sentences {
         holds(1, 1, 6);
     }
 
+    private void changesEachTwoByText(String letter, int[] plateHolds, int[] otherHolds) {
+        changesEachTwo(plateHolds, otherHolds, (x, plate, other) -> {
+            append(x, letter + plate + "," + other);
+            return x.runText();
+        });
+    }
+
+    void runTextExecutesCommandsOfEachPlate() {
+        says("Text", "add (the second one to the first)");
+        changesEachPlate(2, 5, (x, plate) -> {
+            append(x, "s" + plate + "=4/10");
+            return x.runText();
+        });
+        changesEachTwoByText("+", new int[] {11, 12}, new int[] {1, 6});
+        changesEachTwoByText("-", new int[] {7, 12}, new int[] {1, 6});
+        changesEachTwoByText("*", new int[] {1, 8}, new int[] {1, 6});
+        changesEachTwoByText("c", new int[] {3, 4}, new int[] {3, 4});
+    }
+
     void runTextExecutesInOrder() {
         says(32, UP_TO_THE_FIRST);
         runs(4, "s1=1/6;+0,1;*0,0;c0,2");

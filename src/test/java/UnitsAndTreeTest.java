@@ -63,6 +63,14 @@ public final class UnitsAndTreeTest extends Sentences {
         units(30, 31, 6, 2, 3, 8, 107);
     }
 
+    void unitsOfEachPlate() {
+        says(23, "Returns how many units a plate has.");
+        answersOnEachPlate(11, 12, 3, (x, plate) -> x.unitCount(plate));
+        says(24, "Returns the u of a unit 1 / u of a plate.");
+        answersOnEachPlate(11, 12, 2, (x, plate) -> x.unitAt(plate, 0));
+        answersOnEachPlate(11, 12, 12, (x, plate) -> x.unitAt(plate, 2));
+    }
+
     void unitCountWithAGreatUnit() {
         says(23, "Returns how many; NONE if a u would be greater than 1000000000.");
         units(1000, 999999, 2, 1000, 999999000);
@@ -139,6 +147,7 @@ public final class UnitsAndTreeTest extends Sentences {
         refused(STATE, x -> x.set(0, 1, 1), x -> x.unitCount(0));
         refused(STATE, x -> x.set(0, 1000000, 999999), x -> x.unitCount(0));
         refused(STATE, x -> x.set(0, 1000000, 1), x -> x.unitCount(0));
+        refusedOnEachPlate(STATE, 1, 1, (x, plate) -> x.unitCount(plate));
     }
 
     void unitAtOfOneOrMore() {
@@ -149,6 +158,7 @@ public final class UnitsAndTreeTest extends Sentences {
             refused(STATE, x -> x.set(0, 1000000, 999999), x -> x.unitAt(0, unit));
             refused(STATE, x -> x.set(0, 1000000, 1), x -> x.unitAt(0, unit));
         }
+        refusedOnEachPlate(STATE, 1, 1, (x, plate) -> x.unitAt(plate, 0));
     }
 
     void unitCountKnowsPlates0To5() {
@@ -229,6 +239,16 @@ public final class UnitsAndTreeTest extends Sentences {
         due(false, x -> x.beginsRight(0));
     }
 
+    void wayOfEachPlate() {
+        says(25, "Returns how many steps the way to a plate in the tree has.");
+        answersOnEachPlate(355, 113, 25, (x, plate) -> x.waySteps(plate));
+        says(26, TURNS);
+        answersOnEachPlate(355, 113, 2, (x, plate) -> x.wayTurns(plate));
+        says(27, "Tells whether the first step of the way to a plate in the tree goes right.");
+        answersOnEachPlate(355, 113, true, (x, plate) -> x.beginsRight(plate));
+    }
+
+    /** What an earlier call had to find out of another plate does not stay. */
     void wayIsThatOfThePlateAsked() {
         says(26, TURNS);
         x.set(0, 355, 113);
@@ -244,6 +264,7 @@ public final class UnitsAndTreeTest extends Sentences {
         says(25, ZERO);
         refused(STATE, x -> x.set(0, 0, 1), x -> x.waySteps(0));
         refused(STATE, x -> x.takeAway(0, 0), x -> x.waySteps(0));
+        refusedOnEachPlate(STATE, 0, 1, (x, plate) -> x.waySteps(plate));
         x.set(0, 1, 1000000);
         due(999999, x -> x.waySteps(0));
     }
@@ -252,6 +273,7 @@ public final class UnitsAndTreeTest extends Sentences {
         says(26, ZERO);
         refused(STATE, x -> x.set(0, 0, 1), x -> x.wayTurns(0));
         refused(STATE, x -> x.takeAway(0, 0), x -> x.wayTurns(0));
+        refusedOnEachPlate(STATE, 0, 1, (x, plate) -> x.wayTurns(plate));
         x.set(0, 1, 1000000);
         due(0, x -> x.wayTurns(0));
     }
@@ -260,6 +282,7 @@ public final class UnitsAndTreeTest extends Sentences {
         says(27, ZERO);
         refused(STATE, x -> x.set(0, 0, 1), x -> x.beginsRight(0));
         refused(STATE, x -> x.takeAway(0, 0), x -> x.beginsRight(0));
+        refusedOnEachPlate(STATE, 0, 1, (x, plate) -> x.beginsRight(plate));
         x.set(0, 1, 1000000);
         due(false, x -> x.beginsRight(0));
     }
